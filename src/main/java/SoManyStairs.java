@@ -13,6 +13,7 @@ public final class SoManyStairs {
     private static final int MOST_STRONG = 40;
     private static final int MOST_HEAVY = 9;
     private static final int MOST_OWED = 999;
+    private static final int MOST_FAILS = 100;
     private static final int MOST_PAID = 9999;
     private static final int MOST_COUNTED = 999;
     private static final int MOST_WEEKS = 999;
@@ -243,9 +244,9 @@ public final class SoManyStairs {
         int fails = told.fails[tenant];
         int upper = 0;
         for (int good = m; good <= n; good++) {
-            upper += ways(n, good) * power(100 - fails, good) * power(fails, n - good);
+            upper += ways(n, good) * power(MOST_FAILS - fails, good) * power(fails, n - good);
         }
-        int lower = power(100, n);
+        int lower = power(MOST_FAILS, n);
         int common = commonDivisor(upper, lower);
         if (common == 0) {
             return NONE;
@@ -1088,6 +1089,7 @@ public final class SoManyStairs {
         private static final int WORD = 2;
         private static final int NUMBER = 3;
         private static final int SIGN = 4;
+        private static final int BLANK = 5;
         private static final int LONGEST_WORD = 8;
         private static final int LONGEST_NUMBER = 4;
         private static final String SIGNS = ";()<>=+-*/%";
@@ -1114,59 +1116,44 @@ public final class SoManyStairs {
         }
 
         void step() {
-            skipBlanks();
-            at = next;
-            number = 0;
-            sign = 0;
-            word = 0;
-            int here = byteAt(at);
-            if (at >= length) {
-                kind = END;
-            } else if (isLetter(here)) {
-                readWord();
-            } else if (isDigit(here)) {
-                readNumber();
-            } else {
-                readSign(here);
-            }
-        }
-
-        private void skipBlanks() {
-            while (next < length && isBlank(byteAt(next))) {
+            while (next < length && sortOf(byteAt(next)) == BLANK) {
                 next++;
             }
-        }
-
-        private void readWord() {
-            while (next < length && isLetter(byteAt(next))) {
+            at = next;
+            sign = byteAt(at);
+            kind = sortOf(sign);
+            number = 0;
+            word = 0;
+            boolean isLong = kind == WORD || kind == NUMBER;
+            while (next < length && (next == at || isLong && sortOf(byteAt(next)) == kind)) {
+                number = number * 10 + byteAt(next) - '0';
                 word = withLetter(word, byteAt(next));
                 next++;
             }
-            kind = next - at <= LONGEST_WORD ? WORD : BAD;
-        }
-
-        private void readNumber() {
-            while (next < length && isDigit(byteAt(next))) {
-                number = number * 10 + byteAt(next) - '0';
-                next++;
+            boolean isTooLong = next - at > (kind == WORD ? LONGEST_WORD : LONGEST_NUMBER);
+            if (isLong && isTooLong || kind == NUMBER && sortOf(byteAt(next)) == WORD) {
+                kind = BAD;
             }
-            boolean good = next - at <= LONGEST_NUMBER && !isLetter(byteAt(next));
-            kind = good ? NUMBER : BAD;
-        }
-
-        private void readSign(int here) {
-            kind = BAD;
-            for (int i = 0; i < SIGNS.length(); i++) {
-                if (SIGNS.charAt(i) == here) {
-                    kind = SIGN;
-                    sign = here;
-                }
-            }
-            next++;
         }
 
         private int byteAt(int place) {
-            return place >= 0 && place < length && place < text.length ? text[place] : NONE;
+            return place >= 0 && place < length && place < text.length ? text[place] & 255 : NONE;
+        }
+
+        private static int sortOf(int sign) {
+            if (sign == NONE) {
+                return END;
+            }
+            if (sign == 32 || sign == 10) {
+                return BLANK;
+            }
+            if (sign >= 'a' && sign <= 'z') {
+                return WORD;
+            }
+            if (sign >= '0' && sign <= '9') {
+                return NUMBER;
+            }
+            return SIGNS.indexOf((char) sign) >= 0 ? SIGN : BAD;
         }
 
         boolean isWord(String letters) {
@@ -1207,18 +1194,6 @@ public final class SoManyStairs {
         private static long withLetter(long code, int letter) {
             return code * 32 + (letter - 'a' + 1);
         }
-
-        private static boolean isBlank(int sign) {
-            return sign == 32 || sign == 10;
-        }
-
-        private static boolean isLetter(int sign) {
-            return sign >= 'a' && sign <= 'z';
-        }
-
-        private static boolean isDigit(int sign) {
-            return sign >= '0' && sign <= '9';
-        }
     }
 
     /** Reads the text of a HOUSE; the first FAULT met is the first by its place, as all is looked at in order. */
@@ -1253,7 +1228,7 @@ public final class SoManyStairs {
             place = NONE;
             tokens.start(bytes);
             lookForToken();
-            if (tokens.isWord("storeys")) {
+            if (isNext("storeys")) {
                 readStoreys(into);
             }
             for (int line = 0; line < MOST_BYTES && isGoingOn(); line++) {
@@ -1323,12 +1298,17 @@ public final class SoManyStairs {
             }
             step();
             readName(tenant);
-            into.on[tenant] = readValue("on", into.storeys);
-            into.strong[tenant] = readValue("strong", MOST_STRONG);
-            into.heavy[tenant] = readValue("heavy", MOST_HEAVY);
-            into.owes[tenant] = readValue("owes", MOST_OWED);
+            readWord("on");
+            into.on[tenant] = readNumber(0, into.storeys);
+            readWord("strong");
+            into.strong[tenant] = readNumber(0, MOST_STRONG);
+            readWord("heavy");
+            into.heavy[tenant] = readNumber(0, MOST_HEAVY);
+            readWord("owes");
+            into.owes[tenant] = readNumber(0, MOST_OWED);
             if (isNext("fails")) {
-                into.fails[tenant] = readValue("fails", 100);
+                step();
+                into.fails[tenant] = readNumber(0, MOST_FAILS);
             }
             into.tenants++;
         }
@@ -1349,12 +1329,11 @@ public final class SoManyStairs {
             step();
         }
 
-        private int readValue(String word, int most) {
-            if (!isNext(word)) {
+        private void readWord(String word) {
+            if (!tokens.isWord(word)) {
                 fail(MISPLACED);
             }
             step();
-            return readNumber(0, most);
         }
 
         private int readNumber(int least, int most) {
@@ -1638,11 +1617,12 @@ public final class SoManyStairs {
         }
 
         void solve() {
-            for (int set = 0; set < ALL_SETS; set++) {
+            int sets = 1 << tenants;
+            for (int set = 0; set < sets; set++) {
                 best[placeOf(tenants, set)] = 0;
             }
             for (int t = tenants - 1; t >= 0; t--) {
-                for (int set = 0; set < 1 << tenants; set++) {
+                for (int set = 0; set < sets; set++) {
                     // No more can serve already than there were tenants ahead.
                     if (Integer.bitCount(set) <= t) {
                         best[placeOf(t, set)] = bestFrom(t, set);
@@ -1809,8 +1789,9 @@ public final class SoManyStairs {
                 most[i] = NONE;
             }
             most[sum] = 0;
-            for (int more = 1; more <= climbs; more++) {
-                for (int behind = 0; behind < sum; behind++) {
+            // The first climb of all is looked for by the rows of those behind it.
+            for (int more = 1; more < climbs; more++) {
+                for (int behind = 1; behind < sum; behind++) {
                     most[more * ROW + behind] = mostOfNext(more - 1, behind, sum);
                 }
             }

@@ -44,7 +44,7 @@ public final class ModelTest {
 
     public static void main(String[] args) throws Exception {
         int from = args.length > 0 ? Integer.parseInt(args[0]) : 0;
-        int rounds = args.length > 1 ? Integer.parseInt(args[1]) : 250;
+        int rounds = args.length > 1 ? Integer.parseInt(args[1]) : 2000;
         if (FACE.length != 49) {
             System.out.println("the face has " + FACE.length + " methods");
             wrong++;
