@@ -37,7 +37,7 @@ public final class AskTest {
     }
 
     private static String tenant(String name, int on, int strong, int heavy, int owes) {
-        return "tenant " + name + " on " + on + " strong " + strong + " heavy " + heavy + " owes " + owes + ";";
+        return Check.tenant(name, on, strong, heavy, owes);
     }
 
     private static void promise13() {

@@ -1,5 +1,9 @@
-/** What the tests of the promises share: counting answers that are not due, and telling texts. */
+/** What the tests of the promises share: counting answers that are not due, telling texts, keeping states. */
 final class Check {
+    /** Numbers that are never a tenant, a storey, a box, a mark or a "what". */
+    static final int[] NEVER = {Integer.MIN_VALUE, Integer.MIN_VALUE + 1, -65536, -256, -32, -2, 32, 64, 256, 65536,
+        Integer.MAX_VALUE - 1, Integer.MAX_VALUE};
+
     private static int right = 0;
     private static int wrong = 0;
 
@@ -21,6 +25,14 @@ final class Check {
 
     static void isNot(String what, boolean got) {
         same(what, got ? 1 : 0, 0);
+    }
+
+    static int right() {
+        return right;
+    }
+
+    static int wrong() {
+        return wrong;
     }
 
     /** That which lies there, and nothing more. */
@@ -74,6 +86,38 @@ final class Check {
 
     static String times(int n, String piece) {
         return piece.repeat(n);
+    }
+
+    static String tenant(String name, int on, int strong, int heavy, int owes) {
+        return "tenant " + name + " on " + on + " strong " + strong + " heavy " + heavy + " owes " + owes + ";";
+    }
+
+    static void weeks(SoManyStairs x, int n) {
+        for (int i = 0; i < n; i++) {
+            x.week();
+        }
+    }
+
+    /** All that calls can change, but for what the BOXES keep: about(), the tenants, what lies there. */
+    static int[] state(SoManyStairs x) {
+        int[] state = new int[13 + 3 * 8 + 8];
+        for (int what = 0; what < 13; what++) {
+            state[what] = x.about(what);
+        }
+        for (int i = 0; i < 3 * x.about(0); i++) {
+            state[13 + i] = x.tenant(i / 3, 5 + i % 3);
+        }
+        for (int i = 0; i < x.about(12); i++) {
+            state[13 + 3 * 8 + i] = x.lies(i);
+        }
+        return state;
+    }
+
+    static void stays(String what, SoManyStairs x, int[] before) {
+        int[] now = state(x);
+        for (int i = 0; i < before.length; i++) {
+            same(what + ": number " + i + " of the state", now[i], before[i]);
+        }
     }
 
     static void end(String test) {
