@@ -561,7 +561,8 @@ final class ActEdges {
 
     // ---- Promises 6 to 12
 
-    @Says(promise = 6, value = "Of a TENANT what 0: his storey, 1: strong, 2: heavy, 3: owes, 4: fails, 5: BREATH, 6: PAID, 7: DEBT, 8: LACK;")
+    @Says(promise = 6, value = "Of a TENANT what 0: his storey, 1: strong, 2: heavy, 3: owes, 4: fails, "
+            + "5: BREATH, 6: PAID, 7: DEBT, 8: LACK;")
     private static void tenantEachWhat() {
         SoManyStairs x = pair();
         x.climb(1, 5, -1, 0);

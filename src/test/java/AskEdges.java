@@ -375,7 +375,8 @@ final class AskEdges {
         Check.lies("a by b", z, 1, -1);
     }
 
-    @Says(promise = 15, value = "that by which the first ones are carried by the least numbers (TENANT by TENANT: NONE behind all numbers).")
+    @Says(promise = 15, value = "that by which the first ones are carried by the least numbers "
+            + "(TENANT by TENANT: NONE behind all numbers).")
     private static void theLeastNumbersCarry() {
         SoManyStairs x = Check.told(ten("a", 1, 9, 0, 0) + ten("b", 1, 9, 0, 0) + ten("c", 1, 9, 0, 0));
         Check.same("three", x.care(), 3);
@@ -651,7 +652,8 @@ final class AskEdges {
         Check.same("now", x.pull(), 121);
     }
 
-    @Says(promise = 23, value = "How many storeys more (0 .. 99) would have to be climbed this week, so that the lift is higher behind the WEEK than now: the fewest;")
+    @Says(promise = 23, value = "How many storeys more (0 .. 99) would have to be climbed this week, "
+            + "so that the lift is higher behind the WEEK than now: the fewest;")
     private static void leverFromNoneTo99() {
         Check.same("not told", new SoManyStairs().lever(), 10);
         Check.same("none", lift(5, 2, "1").lever(), 0);
@@ -817,9 +819,13 @@ final class AskEdges {
         SoManyStairs x = Check.told("storeys 20;" + ten("a", 1, 40, 0, 0) + "counts storeys*(storeys*night+1-night);");
         Check.same("one", x.stride(0, 0), 1);
         Check.same("all", x.stride(0, 1), 20);
-        Check.same("999 at most, so not all", Check.told("storeys 20;" + ten("a", 1, 40, 0, 0) + "counts storeys*100;").stride(0, 0), 1);
-        Check.same("999 by 9 and by 10", Check.told("storeys 20;" + ten("a", 1, 40, 0, 0) + "counts storeys*storeys*storeys;").stride(0, 0),
-                10);
+        stride("999 at most, so not all", "storeys*100", 1);
+        stride("1000 by 10 are 999, too", "storeys*storeys*storeys", 10);
+    }
+
+    /** By day, of twenty storeys, with breath for each of them. */
+    private static void stride(String what, String counts, int due) {
+        Check.same(what, Check.told("storeys 20;" + ten("a", 1, 40, 0, 0) + "counts " + counts + ";").stride(0, 0), due);
     }
 
     @Says(promise = 28, value = "a CLIMB alone, by day (0), by night (1), COUNTS most for each storey")
@@ -837,9 +843,9 @@ final class AskEdges {
 
     @Says(promise = 28, value = "(compared exactly)")
     private static void strideComparedExactly() {
-        Check.same("5 of 2 and 8 of 3", Check.told(ten("a", 1, 9, 0, 0) + "counts (storeys=2)*5+(storeys=3)*8;").stride(0, 0), 3);
-        Check.same("887 of 8 and 998 of 9", Check.told(ten("a", 1, 9, 0, 0) + "counts (storeys=8)*887+(storeys=9)*998;").stride(0, 0), 9);
-        Check.same("888 of 8 and 998 of 9", Check.told(ten("a", 1, 9, 0, 0) + "counts (storeys=8)*888+(storeys=9)*998;").stride(0, 0), 8);
+        stride("5 of 2 and 8 of 3", "(storeys=2)*5+(storeys=3)*8", 3);
+        stride("887 of 8 and 998 of 9", "(storeys=8)*887+(storeys=9)*998", 9);
+        stride("888 of 8 and 998 of 9", "(storeys=8)*888+(storeys=9)*998", 8);
     }
 
     @Says(promise = 28, value = "for which a TENANT has BREATH;")
@@ -855,7 +861,7 @@ final class AskEdges {
     @Says(promise = 28, value = "of like ones the fewest;")
     private static void strideOfLikeOnes() {
         Check.same("not told", Check.told(ten("a", 1, 9, 0, 0)).stride(0, 0), 1);
-        Check.same("5 of 2 and 10 of 4", Check.told(ten("a", 1, 9, 0, 0) + "counts (storeys=2)*5+(storeys=4)*10;").stride(0, 0), 2);
+        stride("5 of 2 and 10 of 4", "(storeys=2)*5+(storeys=4)*10", 2);
         Check.same("nothing counts", Check.told(ten("a", 1, 9, 0, 0) + "counts 0;").stride(0, 1), 1);
     }
 
@@ -882,7 +888,8 @@ final class AskEdges {
 
     // ---- PROXY, SETTLE
 
-    @Says("who has the BREATH for it, with one CLIMB alone, by day, of the fewest storeys by which it COUNTS the LACK at least (as things are now);")
+    @Says("who has the BREATH for it, with one CLIMB alone, by day, of the fewest storeys "
+            + "by which it COUNTS the LACK at least (as things are now);")
     private static void fewestStoreysForTheLack() {
         SoManyStairs x = Check.told(ten("a", 1, 0, 9, 40) + ten("b", 1, 5, 9, 0) + "counts storeys*10+night*100+heavy*100;");
         proxy("four count 40", x, 1, 4, 1, -1);
@@ -1037,7 +1044,8 @@ final class AskEdges {
         Check.same("nothing owed, but no such storeys", Check.told(ten("a", 1, 1, 0, 0)).settle(0, 0), -1);
     }
 
-    @Says(promise = 32, value = "Where the lift is behind 60 WEEKS, if so many storeys (0 .. 999) are climbed in each (this one, too: so many in all);")
+    @Says(promise = 32, value = "Where the lift is behind 60 WEEKS, if so many storeys (0 .. 999) "
+            + "are climbed in each (this one, too: so many in all);")
     private static void hoverFromNoneTo999() {
         SoManyStairs x = lift(20, 10, "climbed-5");
         x.climb(0, 9, -1, 0);
@@ -1209,7 +1217,8 @@ final class AskEdges {
         Check.same("nothing counts", Check.told(ten("a", 1, 40, 0, 0) + "counts 0;").ladder(0), 0);
         // All breath need not be used.
         Check.same("one storey alone", Check.told(ten("a", 1, 40, 0, 0) + "counts climbed=0;").ladder(0), 1);
-        Check.same("not more than all at once", Check.told("storeys 2;" + ten("a", 1, 9, 0, 0) + "counts (storeys>2)*99+storeys;").ladder(0), 9);
+        SoManyStairs w = Check.told("storeys 2;" + ten("a", 1, 9, 0, 0) + "counts (storeys>2)*99+storeys;");
+        Check.same("not more than all at once", w.ladder(0), 9);
     }
 
     @Says(promise = 37, value = "LADDER; NONE if there is none such.")
@@ -1228,8 +1237,9 @@ final class AskEdges {
         Check.same("one on the ground, who owes nothing", Check.told(ten("a", 0, 1, 0, 0)).spread(), 0);
         Check.same("the most there can be", Check.told("storeys 20;" + ten("a", 20, 1, 0, 999) + ten("b", 0, 1, 0, 0)).spread(), 1599);
         Check.same("all at the most", Check.told("storeys 20;" + ten("a", 20, 1, 0, 999) + ten("b", 20, 1, 0, 999)).spread(), 0);
-        Check.same("the last is the least", Check.told(ten("a", 9, 1, 0, 100) + ten("b", 0, 1, 0, 250) + ten("c", 4, 1, 0, 60)).spread(), 190);
-        Check.same("the last is the most", Check.told(ten("c", 4, 1, 0, 60) + ten("b", 0, 1, 0, 250) + ten("a", 9, 1, 0, 100)).spread(), 190);
+        String[] three = {ten("a", 9, 1, 0, 100), ten("b", 0, 1, 0, 250), ten("c", 4, 1, 0, 60)};
+        Check.same("the last is the least", Check.told(three[0] + three[1] + three[2]).spread(), 190);
+        Check.same("the last is the most", Check.told(three[2] + three[1] + three[0]).spread(), 190);
     }
 
     @Says(promise = 38, value = "NONE without TENANTS.")

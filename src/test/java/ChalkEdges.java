@@ -136,7 +136,8 @@ final class ChalkEdges {
         x.untell(0);
         x.later(5);
         x.untell(1);
-        int[][] due = {{MIN, 9}, {-1, 9}, {0, 9}, {4, 9}, {5, 4}, {9, 4}, {10, 3}, {14, 3}, {15, 6}, {19, 6}, {20, 9}, {21, 9}, {MAX, 9}};
+        int[][] due = {{MIN, 9}, {-1, 9}, {0, 9}, {4, 9}, {5, 4}, {9, 4}, {10, 3}, {14, 3}, {15, 6}, {19, 6}, {20, 9},
+            {21, 9}, {MAX, 9}};
         for (int[] d : due) {
             Check.same("runs(" + d[0] + ")", x.runs(d[0]), d[1]);
         }
@@ -146,7 +147,8 @@ final class ChalkEdges {
         Check.same("ask at 21", x.ask(1, 21), 5);
     }
 
-    @Says("ASK: the storey of which to know whether the run has it would leave the fewest of these at the most; of like ones the first.")
+    @Says("ASK: the storey of which to know whether the run has it "
+            + "would leave the fewest of these at the most; of like ones the first.")
     private static void firstOfLikeStoreys() {
         // Of two runs, (0 1) and (1 2), 0 and 2 part them, 1 does not.
         SoManyStairs x = Check.told("storeys 2;" + Check.tenant("a", 1, 1, 0, 0));

@@ -853,7 +853,8 @@ final class TextEdges {
     private static void aFaultChangesNothing() {
         SoManyStairs x = busy();
         int[] before = Check.state(x);
-        String[] texts = {"$", "storeys 20 lift 20;draw 7;counts 8;moves 9;" + tenants(8) + "x", "storeys 21;", tenants(2) + "tenant a"};
+        String[] texts = {"$", "storeys 20 lift 20;draw 7;counts 8;moves 9;" + tenants(8) + "x", "storeys 21;",
+            tenants(2) + "tenant a"};
         for (String text : texts) {
             Check.feed(x, text);
             Check.same("house() of " + text, x.house(), -1);
