@@ -4,20 +4,24 @@ import java.lang.reflect.Method;
 import java.nio.file.Files;
 import java.nio.file.Path;
 import java.util.ArrayList;
+import java.util.Arrays;
 import java.util.Comparator;
 import java.util.List;
 
 /**
- * A test of its own for each sentence of the document that names a boundary case: a method marked with the
- * sentence. Each sentence has to stand in the document still, and each promise to have one.
+ * A test of its own for each sentence of the document: a method marked with the sentence. Each sentence has to
+ * stand in the document still, each promise to have one, and no word of the document to be left without a test.
  */
 public final class EdgeTest {
     static final Path DOCUMENT = Path.of("../shared/DOC.md");
     private static final int PROMISES = 50;
+    // The words of a heading, and the call that stands behind it.
+    private static final String HEADINGS = "## Terms|==== [0-9][.]|```text|```|## Promise [0-9]+: .*?`: ";
 
     public static void main(String[] args) throws Exception {
         List<Method> tests = new ArrayList<>();
-        for (Class<?> all : new Class<?>[] {TextEdges.class, ActEdges.class, AskEdges.class, ChalkEdges.class}) {
+        for (Class<?> all : new Class<?>[] {TextEdges.class, ActEdges.class, AskEdges.class, ChalkEdges.class,
+            PlainCases.class}) {
             for (Method m : all.getDeclaredMethods()) {
                 if (m.isAnnotationPresent(Says.class)) {
                     tests.add(m);
@@ -61,6 +65,26 @@ public final class EdgeTest {
         for (int promise = 1; promise <= PROMISES; promise++) {
             int which = promise;
             Check.is("promise " + promise + " has a test", tests.stream().anyMatch(m -> says(m).promise() == which));
+        }
+        for (int promise = 0; promise <= PROMISES; promise++) {
+            lookAtWords(tests, promise, part(document, promise));
+        }
+    }
+
+    /** What is left of a part without what its tests say: no words, but for headings. */
+    private static void lookAtWords(List<Method> tests, int promise, String part) {
+        String left = part.substring(Math.max(0, part.indexOf("## Terms")));
+        char[] signs = left.toCharArray();
+        for (Method test : tests) {
+            String value = says(test).value();
+            int at = says(test).promise() == promise ? left.indexOf(value) : -1;
+            while (at >= 0) {
+                Arrays.fill(signs, at, at + value.length(), '~');
+                at = left.indexOf(value, at + 1);
+            }
+        }
+        for (String words : new String(signs).replaceAll(HEADINGS, "~").split("~")) {
+            Check.isNot("no test says of promise " + promise + ": " + words, words.matches(".*[A-Za-z0-9].*"));
         }
     }
 
